@@ -1027,6 +1027,9 @@ public final class PaperParcels {
     private static final class Script {
         private static final int TAKEN_OUT = -2;
 
+        /** Each node is come to, left, taken out or put in at most once. */
+        private static final int TURNS_MOST = 4 * NODES_MOST;
+
         boolean found;
         int count;
         final int[] oldNodes;
@@ -1048,6 +1051,9 @@ public final class PaperParcels {
 
         /** For each old node NONE as long as it stays as it was, TAKEN_OUT, or what it is changed to. */
         private final int[] fates;
+
+        /** The node in the result that an old one has become. */
+        private final int[] copies;
         private int applied;
 
         Script(Paper from, Paper to, Paper result) {
@@ -1061,6 +1067,7 @@ public final class PaperParcels {
             costs = new int[NODES_MOST][NODES_MOST];
             rowCosts = new int[NODES_MOST + 1][NODES_MOST + 1];
             fates = new int[NODES_MOST];
+            copies = new int[NODES_MOST];
         }
 
         void drop() {
@@ -1074,7 +1081,7 @@ public final class PaperParcels {
             fillCosts();
             drop();
             found = true;
-            addPair(0, 0, 0);
+            addSteps();
             return costs[0][0];
         }
 
@@ -1133,21 +1140,28 @@ public final class PaperParcels {
             return true;
         }
 
-        /** No run is in more than eight others, so that the depth never refuses a pair. */
-        private void addPair(int a, int b, int depth) {
-            if (depth > NESTED_MOST) {
-                return;
-            }
-            if (costOfChange(a, b) != 0) {
-                addStep(a, b, NONE, NONE);
-            }
+        /** Where the rows in a pair end, the walk goes on behind the pair in the rows around it. */
+        private void addSteps() {
+            int a = 0;
+            int b = 0;
+            addChange(a, b);
             int i = old.firsts[a];
             int j = fresh.firsts[b];
-            for (int turn = 0; turn < STEPS_MOST && (i != Tree.END || j != Tree.END); turn++) {
-                if (isLeastTogether(i, j)) {
-                    addPair(i, j, depth + 1);
-                    i = old.nexts[i];
-                    j = fresh.nexts[j];
+            for (int turn = 0; turn < TURNS_MOST; turn++) {
+                if (i == Tree.END && j == Tree.END) {
+                    if (a == 0 || b == 0) {
+                        return;
+                    }
+                    i = old.nexts[a];
+                    j = fresh.nexts[b];
+                    a = old.paper.aboves[a];
+                    b = fresh.paper.aboves[b];
+                } else if (isLeastTogether(i, j)) {
+                    a = i;
+                    b = j;
+                    addChange(a, b);
+                    i = old.firsts[a];
+                    j = fresh.firsts[b];
                 } else if (i != Tree.END && rowCosts[i][j] == costTakingOut(i, j)) {
                     addStep(i, NONE, NONE, NONE);
                     i = old.nexts[i];
@@ -1155,6 +1169,12 @@ public final class PaperParcels {
                     addStep(NONE, j, a, i);
                     j = fresh.nexts[j];
                 }
+            }
+        }
+
+        private void addChange(int a, int b) {
+            if (costOfChange(a, b) != 0) {
+                addStep(a, b, NONE, NONE);
             }
         }
 
@@ -1182,35 +1202,52 @@ public final class PaperParcels {
                 }
             }
             result.clear();
-            copyOld(0, NONE, 0);
+            copyRows();
         }
 
-        private void copyOld(int node, int above, int depth) {
-            if (depth > NESTED_MOST) {
-                return;
+        /** What is in a node that was taken out is taken out with it. */
+        private void copyRows() {
+            int open = NONE;
+            for (int node = 0; node < old.paper.count; node++) {
+                int above = old.paper.aboves[node];
+                if (above != NONE && fates[above] == TAKEN_OUT) {
+                    fates[node] = TAKEN_OUT;
+                    continue;
+                }
+                endRows(open, above);
+                putIn(above, node);
+                open = above;
+                if (fates[node] != TAKEN_OUT) {
+                    copyOld(node, above == NONE ? NONE : copies[above]);
+                    open = node;
+                }
             }
-            int made = result.count;
-            if (fates[node] < 0) {
+            endRows(open, NONE);
+        }
+
+        private void copyOld(int node, int above) {
+            copies[node] = result.count;
+            if (fates[node] == NONE) {
                 result.addCopy(old.paper, node, above);
             } else {
                 result.addCopy(fresh.paper, fates[node], above);
             }
-            int child = old.firsts[node];
-            for (int turn = 0; turn < NODES_MOST && child != Tree.END; turn++) {
-                putIn(node, child, made);
-                if (fates[child] != TAKEN_OUT) {
-                    copyOld(child, made, depth + 1);
-                }
-                child = old.nexts[child];
+        }
+
+        /** Ends the rows in a node and in those around it, up to, but not with, one of these. */
+        private void endRows(int from, int upTo) {
+            int open = from;
+            for (int turn = 0; turn < NODES_MOST && open != upTo && open != NONE; turn++) {
+                putIn(open, Tree.END);
+                open = old.paper.aboves[open];
             }
-            putIn(node, Tree.END, made);
         }
 
         /** Those before an old one were put together or taken out by the time a new one comes there. */
-        private void putIn(int row, int place, int above) {
-            for (int k = 0; k < applied; k++) {
+        private void putIn(int row, int place) {
+            for (int k = 0; k < applied && row != NONE; k++) {
                 if (insertRows[k] == row && insertPlaces[k] == place) {
-                    copyFresh(freshNodes[k], above);
+                    copyFresh(freshNodes[k], copies[row]);
                 }
             }
         }

@@ -47,6 +47,20 @@ public final class ApplyTest {
                 "<d><l><i><p>a</p></i></l></d>",
                 "<d><l><i/></l></d>",
                 "<d><l><i><l><i><p/></i></l></i></l></d>");
+        due("<p/><l><i><l><i><l><i><p>a</p></i></l></i></l></i></l>",
+                "<p>q</p><l><i><l><i><l><i><p>b</p></i></l></i></l></i></l>",
+                "<d><p/><l><i><l><i><l><i><p>a</p></i></l></i></l></i></l></d>",
+                "<d><p>q</p><l><i><l><i><l><i><p>a</p></i></l></i></l></i></l></d>",
+                "<d><p>q</p><l><i><l><i><l><i><p>b</p></i></l></i></l></i></l></d>");
+        due("<p>abc</p><p>def</p>", "<p>abc</p><l><i><p>q</p></i><i><p/></i></l><l><i><p>r</p></i></l>",
+                "<d><p>abc</p><p>def</p></d>",
+                "<d><p>abc</p></d>",
+                "<d><p>abc</p><l><i><p>q</p></i><i><p/></i></l></d>",
+                "<d><p>abc</p><l><i><p>q</p></i><i><p/></i></l><l><i><p>r</p></i></l></d>");
+        due("<p/><l><i><p>abcdefgh</p></i></l>", "<l><i><l><i><p>q</p></i></l></i><i><p>abcdefgh</p></i></l>",
+                "<d><p/><l><i><p>abcdefgh</p></i></l></d>",
+                "<d><l><i><p>abcdefgh</p></i></l></d>",
+                "<d><l><i><l><i><p>q</p></i></l></i><i><p>abcdefgh</p></i></l></d>");
     }
 
     private static void putInPlace() {

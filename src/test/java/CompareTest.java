@@ -40,6 +40,8 @@ public final class CompareTest {
         due("<p>aaaa<x y=\"A\">b</x></p>", "<p><x y=\"A\">b</x></p>", 4, "2>2 3>-1");
         due("<p>aaa<x y=\"A\">b</x></p>", "<p><x y=\"A\">b</x></p>", 4, "2>2 3>-1");
         due("<p>a<x y=\"A\">b</x></p>", "<p><x y=\"A\">b</x></p>", 2, "2>-1");
+        due("<l><i><l><i><l><i><p>a</p></i></l></i></l></i></l>", "<l><i><l><i><l><i><p>b</p></i></l></i></l></i></l>",
+                2, "8>8");
     }
 
     private static void firstChoices() {

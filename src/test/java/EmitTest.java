@@ -2,6 +2,7 @@
 public final class EmitTest {
     public static void main(String[] args) {
         written();
+        sizes();
         packed();
         contentLimits();
         manyLooks();
@@ -40,6 +41,27 @@ public final class EmitTest {
                 + "<p/><p y=\"D\"/></d>"));
     }
 
+    private static void sizes() {
+        int[] sizes = {99, 100, 101, 109, 110, 199, 200, 299, 300};
+        for (int size : sizes) {
+            String body = "<d><p>" + "a".repeat(size - 14) + "</p></d>";
+            due(with("", body), 0, "S0004<t/>2296" + Parcels.part("C", 0, body, body));
+        }
+        String styles = "";
+        String body = "";
+        int[] z = {1, 9, 10, 99};
+        for (int i = 0; i < z.length; i++) {
+            char name = (char) ('A' + i);
+            styles += "<s n=\"" + name + "\" b=\"1\" z=\"" + z[i] + "\" k=\"" + (9 - i) + "\"/>";
+            body += "<p y=\"" + name + "\"/>";
+        }
+        PaperParcels x = with(styles, "<d>" + body + "</d>");
+        due(x, 0, Parcels.plain("<t>" + styles + "</t>", "<d>" + body + "</d>"));
+        due(x, 1, Parcels.packed("<t>" + styles + "</t>", "<d>" + body + "</d>"));
+        Check.due("another document on the same object", Parcels.read(x, 0, Parcels.plain("<t/>", "<d/>")), "0:-1");
+        due(x, 0, Parcels.plain("<t/>", "<d/>"));
+    }
+
     private static void packedLetters(String letters, String data) {
         String body = "<d><p>" + letters + "</p></d>";
         due(with("", body), 1, "S1004<t/>2296" + Parcels.part("C", 1, "<d><p>" + data + "</p></d>", body));
@@ -54,6 +76,7 @@ public final class EmitTest {
         packedLetters("abcabcabc", "abc~031");
         packedLetters("abcdeXabcde", "abcdeX~060");
         packedLetters("abcdXabcd", "abcdXabcd");
+        packedLetters("abcdefghijabcde", "abcdefghij~100");
         packedLetters("abcdeXabcdeYabcde", "abcdeX~060Y~060");
         packedLetters("abcdefXabcdeYabcdef", "abcdefX~070Y~131");
         packedLetters("abcdefghijklmnoXabcdefghijklmnYabcdefghijklmno",

@@ -76,6 +76,10 @@ public final class FaultTest {
         due("S1005ax~010000" + C, "2:7");
         due("S1009a~019~0x90000" + C, "2:10");
         due(S + "C1004~0110000", "2:18");
+        String[] noDigits = {"~0:0", "~1/0", "~01:", "~01/", "~/:0", "~:/0", "~~01", "~ 10", "~1 0", "~01 "};
+        for (String reference : noDigits) {
+            due(S + "C1024abcdefghijklmnopqrst" + reference + "0000", "2:38");
+        }
         String full = "<d><p>" + "a".repeat(286) + "</p></d>";
         due(S + Parcels.part("C", 0, full, full), "0:-1");
         due(S + Parcels.part("C", 0, full + "b", full), "2:318");

@@ -4,6 +4,7 @@ public final class PlainFormTest {
         numbers();
         looks();
         runs();
+        manyReads();
         wrongInputs();
         Check.finish("PlainFormTest");
     }
@@ -63,6 +64,20 @@ public final class PlainFormTest {
                 + "4 R in 1 look 0 10 0 letters 2 'de'\n"
                 + "5 P in 0 look 0 10 0 letters 0 ''\n"
                 + "6 R in 5 look 0 10 0 letters 5 'f /=\"'\n");
+    }
+
+    private static void manyReads() {
+        PaperParcels x = new PaperParcels();
+        for (int turn = 0; turn < 6; turn++) {
+            String letters = String.valueOf((char) ('a' + turn)).repeat(286 - turn);
+            Check.due("read", Parcels.read(x, turn % 2, Parcels.plain("<t/>", "<d><p>" + letters + "</p></d>")), "0:-1");
+            Check.due("letters", x.letters(turn % 2, 2), 286 - turn);
+            Check.due("last letter", x.letter(turn % 2, 2, 285 - turn), 'a' + turn);
+            if (turn > 0) {
+                Check.due("compare", x.compare(), 2);
+                Check.due("apply", x.apply(1) + " " + x.letters(2, 2), "3 " + x.letters(1, 2));
+            }
+        }
     }
 
     private static void wrongInputs() {
