@@ -5,7 +5,8 @@ import java.util.Arrays;
  * brought to one plain form, compared at the least cost, changed into one another step by step,
  * and written as packages again.
  *
- * <p>Every row that a call needs is made with the object, so that no call makes another object.
+ * <p>Every row that a call needs is made with the object, so that no call makes another object but
+ * the exception that it throws.
  */
 public final class PaperParcels {
     public static final int NONE = -1;
