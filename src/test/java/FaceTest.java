@@ -78,6 +78,11 @@ public final class FaceTest {
         for (String method : due) {
             String name = method.replaceAll("\\(.*", "").replaceAll(".* ", "");
             Check.due("a hidden method named " + name, hidden.contains(name), false);
+            for (Class<?> inside : PaperParcels.class.getDeclaredClasses()) {
+                for (Method own : inside.getDeclaredMethods()) {
+                    Check.due("a method inside named " + name, own.getName().equals(name), false);
+                }
+            }
         }
     }
 
