@@ -142,6 +142,9 @@ final class ElementBoundaries {
         for (char letter = 'a'; letter <= 'z'; letter++) {
             Cases.body("<d" + all + " " + letter + "=\"\"/>", "4:1133");
         }
+        String five = " a=\"\" b=\"\" c=\"\" d=\"\" e=\"\"";
+        Cases.body("<d" + all + "><p" + all + "/><p" + five + "/></d>", "5:1003");
+        Cases.body("<d" + all + "><p" + all + "/><p" + five.replace("e", "a") + "/></d>", "4:1290");
         Cases.styled(Cases.STYLE, "<d><p y=\"A\"><x y=\"A\"><x y=\"A\"/></x></p><p y=\"A\"/></d>", "0:-1");
         Cases.styled(Cases.STYLE, "<d><p y=\"A\"/><p y=\"A\" y=\"A\"/></d>", "4:1022");
     }

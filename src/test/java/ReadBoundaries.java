@@ -120,8 +120,27 @@ final class ReadBoundaries {
             Check.due("nothing of two is left", Cases.shortForm(x, slot), "S P0/0,10,0 R1/0,10,0=q");
             Check.dueCall("no node of two", () -> x.kind(slot, 3), Parcels.OUT_OF_BOUNDS);
         }
+        nothingIsLeft();
         PaperParcels empty = new PaperParcels();
         Check.due("a fault", Parcels.read(empty, 0, one + "q") + " " + empty.nodes(0), "1:37 0");
+    }
+
+    /** Texts one after another whose elements, attributes and styles would do harm if they were left. */
+    private static void nothingIsLeft() {
+        String[] sheets = {"<t><s n=\"A\"/><s n=\"B\"/></t>", "<t><s z=\"5\" n=\"A\"/></t>", "<t/>",
+            "<t><s n=\"A\" f=\"B\"/><s n=\"B\" f=\"A\"/></t>", "<t><s b=\"1\" z=\"5\" n=\"A\"/></t>",
+            "<t><s n=\"B\" f=\"B\"/></t>", "<t><s n=\"A\"/></t>"};
+        String[] bodies = {"<d><p y=\"B\"/><p/></d>", "<d><p y=\"A\">q</p></d>", "<d/>", "<d/>", "<d><p y=\"B\"/></d>",
+            "<d/>", "<d><l><i><p>q</p></i></l></d>"};
+        String[] wants = {"0:-1", "0:-1", "0:-1", "6:3", "6:1003", "6:3", "0:-1"};
+        for (int first = 0; first < sheets.length; first++) {
+            for (int second = 0; second < sheets.length; second++) {
+                PaperParcels x = new PaperParcels();
+                Parcels.read(x, 0, Parcels.plain(sheets[first], bodies[first]));
+                String text = Parcels.plain(sheets[second], bodies[second]);
+                Check.due("read of " + text + " after another", Parcels.read(x, 0, text), wants[second]);
+            }
+        }
     }
 
     private static void wrongSlots() {
